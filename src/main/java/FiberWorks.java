@@ -30,7 +30,7 @@ public final class FiberWorks {
         code = new Code();
         Declarations declared = new Declarations();
         reader = new Reader(words, faults, types, declared, code);
-        checker = new Checker(words, faults, types, declared, code);
+        checker = new Checker(faults, types, declared, code);
         machine = new Machine(code);
         hasProgram = false;
     }
@@ -55,6 +55,7 @@ public final class FiberWorks {
     public int read() throws IllegalArgumentException {
         machine.clear();
         faults.clear();
+        words.split();
         hasProgram = isProgram();
         words.clear();
         if (!hasProgram) {
@@ -162,8 +163,7 @@ public final class FiberWorks {
         int place;
 
         Faults() {
-            kind = 0;
-            place = NONE;
+            clear();
         }
 
         void clear() {
@@ -180,7 +180,7 @@ public final class FiberWorks {
 
     /** The kinds of words; those that are always spelled alike with their letters. */
     private enum Word {
-        END_OF_TEXT(""), NAME(""), EFFECT(""), NUMBER(""),
+        END_OF_TEXT(""), NO_WORD(""), NAME(""), EFFECT(""), NUMBER(""),
         OPEN("("), CLOSE(")"), OPEN_ROW("{"), CLOSE_ROW("}"), COLON(":"), SEMICOLON(";"),
         COMMA(","), SAME("="), LESS("<"), PLUS("+"), MINUS("-"), TIMES("*"), PERFORM("!"),
         BAR("|"), ARROW("->"),
@@ -195,7 +195,11 @@ public final class FiberWorks {
         }
     }
 
-    /** The text in hand, and the word of it that is being looked at. */
+    /**
+     * The text in hand, and its words. Names and effects alike have one number, so that what comes
+     * behind need not look at letters again. Behind a word that is none no other is told: it is a
+     * fault once it is reached, and reading never gets past it.
+     */
     private static final class Words {
         private static final Word[] KINDS = Word.values();
         private static final int MOST_LETTERS = 12;
@@ -204,19 +208,28 @@ public final class FiberWorks {
         private final Faults faults;
         private final byte[] text;
         int length;
+        private final Word[] kinds;
+        private final int[] places;
+        private final int[] values;
+        private int count;
+        private int current;
+        /** Of the word that is looked at; value the number of a number, name or effect. */
         Word kind;
         int place;
-        int number;
-        private int next;
+        int value;
 
         Words(Faults faults) {
             this.faults = faults;
             text = new byte[TEXT_BYTES];
             length = 0;
+            kinds = new Word[TEXT_BYTES + 1];
+            places = new int[TEXT_BYTES + 1];
+            values = new int[TEXT_BYTES + 1];
+            count = 0;
+            current = 0;
             kind = Word.END_OF_TEXT;
             place = 0;
-            number = 0;
-            next = 0;
+            value = 0;
         }
 
         void append(byte[] bytes, int n) {
@@ -229,114 +242,134 @@ public final class FiberWorks {
         }
 
         void toFirst() {
-            next = 0;
-            advance();
+            current = 0;
+            look();
         }
 
-        void advance() {
-            while (next < length && (text[next] == ' ' || text[next] == '\n')) {
-                next++;
+        void toNext() {
+            if (current < count - 1) {
+                current++;
             }
-            place = next;
-            if (next == length) {
-                kind = Word.END_OF_TEXT;
-            } else if (isDigit(text[next])) {
-                takeNumber();
-            } else if (isSmall(text[next]) || isCapital(text[next])) {
-                takeLetters();
-            } else {
-                takeSign();
-            }
+            look();
         }
 
-        private void takeNumber() {
-            number = 0;
-            while (next < length && isDigit(text[next])) {
-                number = number * 10 + (text[next] - '0');
-                next++;
-            }
-            refuseLonger(MOST_DIGITS);
-            kind = Word.NUMBER;
-        }
-
-        private void takeLetters() {
-            while (next < length && isLetterOrDigit(text[next])) {
-                next++;
-            }
-            refuseLonger(MOST_LETTERS);
-            Word keyword = spelled(next - place);
-            if (keyword != null) {
-                kind = keyword;
-            } else {
-                kind = isSmall(text[place]) ? Word.NAME : Word.EFFECT;
-            }
-        }
-
-        private void takeSign() {
-            boolean arrow = text[next] == '-' && next + 1 < length && text[next + 1] == '>';
-            next += arrow ? 2 : 1;
-            kind = spelled(next - place);
-            if (kind == null) {
+        private void look() {
+            kind = kinds[current];
+            place = places[current];
+            value = values[current];
+            if (kind == Word.NO_WORD) {
                 faults.refuse(Faults.NO_WORD, place);
             }
         }
 
-        private void refuseLonger(int most) {
-            if (next - place > most) {
-                faults.refuse(Faults.NO_WORD, place);
+        void split() {
+            count = 0;
+            int at = 0;
+            boolean isWord = true;
+            while (at < length && isWord) {
+                if (text[at] == ' ' || text[at] == '\n') {
+                    at++;
+                } else {
+                    int end = endOfWord(at);
+                    addWord(at, end);
+                    isWord = kinds[count - 1] != Word.NO_WORD;
+                    at = end;
+                }
             }
+            kinds[count] = Word.END_OF_TEXT;
+            places[count] = length;
+            values[count] = 0;
+            count++;
         }
 
-        private Word spelled(int count) {
+        /** Always behind from. */
+        private int endOfWord(int from) {
+            int end = from + 1;
+            if (isLetter(text[from])) {
+                while (end < length && (isLetter(text[end]) || isDigit(text[end]))) {
+                    end++;
+                }
+            } else if (isDigit(text[from])) {
+                while (end < length && isDigit(text[end])) {
+                    end++;
+                }
+            } else if (text[from] == '-' && end < length && text[end] == '>') {
+                end++;
+            }
+            return end;
+        }
+
+        private void addWord(int from, int end) {
+            places[count] = from;
+            values[count] = 0;
+            if (isDigit(text[from])) {
+                kinds[count] = end - from <= MOST_DIGITS ? Word.NUMBER : Word.NO_WORD;
+                values[count] = number(from, end);
+            } else {
+                kinds[count] = spelled(from, end);
+                if (kinds[count] == Word.NAME || kinds[count] == Word.EFFECT) {
+                    values[count] = numberOfName(from, end);
+                }
+            }
+            count++;
+        }
+
+        private int number(int from, int end) {
+            int number = 0;
+            for (int i = from; i < end; i++) {
+                number = number * 10 + (text[i] - '0');
+            }
+            return number;
+        }
+
+        private Word spelled(int from, int end) {
             for (Word word : KINDS) {
-                if (word.letters.length() == count && isSpelled(word.letters)) {
+                if (word.letters.length() == end - from && isSpelled(word.letters, from)) {
                     return word;
                 }
             }
-            return null;
+            if (!isLetter(text[from]) || end - from > MOST_LETTERS) {
+                return Word.NO_WORD;
+            }
+            return text[from] >= 'a' ? Word.NAME : Word.EFFECT;
         }
 
-        private boolean isSpelled(String letters) {
+        private boolean isSpelled(String letters, int from) {
             for (int i = 0; i < letters.length(); i++) {
-                if (text[place + i] != letters.charAt(i)) {
+                if (text[from + i] != letters.charAt(i)) {
                     return false;
                 }
             }
             return true;
         }
 
-        /** Whether the names or effects at two places are the same one. */
-        boolean isSame(int one, int other) {
-            for (int i = 0; i < MOST_LETTERS; i++) {
-                int a = letterAt(one + i);
-                if (a != letterAt(other + i)) {
-                    return false;
-                }
-                if (a == 0) {
-                    return true;
+        /** The number is the place of the first word that is the same. */
+        private int numberOfName(int from, int end) {
+            for (int i = 0; i < count; i++) {
+                boolean isName = kinds[i] == Word.NAME || kinds[i] == Word.EFFECT;
+                if (isName && isSame(places[i], from, end)) {
+                    return places[i];
                 }
             }
-            return true;
+            return from;
         }
 
-        private int letterAt(int at) {
-            return at < length && isLetterOrDigit(text[at]) ? text[at] : 0;
+        private boolean isSame(int earlier, int from, int end) {
+            int size = end - from;
+            for (int i = 0; i < size; i++) {
+                if (text[earlier + i] != text[from + i]) {
+                    return false;
+                }
+            }
+            return endOfWord(earlier) == earlier + size;
         }
 
-        private static boolean isSmall(byte b) {
-            return b >= 'a' && b <= 'z';
-        }
-
-        private static boolean isCapital(byte b) {
-            return b >= 'A' && b <= 'Z';
+        private static boolean isLetter(byte b) {
+            return b >= 'a' && b <= 'z' || b >= 'A' && b <= 'Z';
         }
 
         private static boolean isDigit(byte b) {
             return b >= '0' && b <= '9';
-        }
-
-        private static boolean isLetterOrDigit(byte b) {
-            return isSmall(b) || isCapital(b) || isDigit(b);
         }
     }
 
@@ -444,7 +477,7 @@ public final class FiberWorks {
         }
     }
 
-    /** The effects that the text declares; a name is known by its place in the text. */
+    /** The effects that the text declares. */
     private static final class Declarations {
         static final int MOST = 8;
 
@@ -459,19 +492,28 @@ public final class FiberWorks {
             result = new int[MOST];
             count = 0;
         }
+
+        int find(int effectName) {
+            for (int i = 0; i < count; i++) {
+                if (name[i] == effectName) {
+                    return i;
+                }
+            }
+            return NONE;
+        }
     }
 
     /** What the instructions do. Those told as checked only do nothing when they run. */
     private static final class Op {
         /** a the value, b its type. */
         static final int VALUE = 0;
-        /** a the place of the name; LOCAL or OUTER once it is checked. */
+        /** a the name, b its place; LOCAL or OUTER once it is checked. */
         static final int NAME = 1;
         /** a which of the frame's own values. */
         static final int LOCAL = 2;
         /** a which of the values that the frame's record holds. */
         static final int OUTER = 3;
-        /** a the place of the name, then which of the frame's own values. */
+        /** a the name, then which of the frame's own values. */
         static final int BIND = 4;
         /** Checked only: the end of what BIND bound. */
         static final int FORGET = 5;
@@ -614,17 +656,17 @@ public final class FiberWorks {
             if (declared.count == Declarations.MOST) {
                 faults.refuse(Faults.LIMIT, words.place);
             }
-            words.advance();
+            words.toNext();
             if (words.kind != Word.EFFECT) {
                 refuseWord();
             }
-            if (effectAt(words.place) != NONE) {
+            if (declared.find(words.value) != NONE) {
                 faults.refuse(Faults.UNDECLARED, words.place);
             }
             int effect = declared.count;
-            declared.name[effect] = words.place;
+            declared.name[effect] = words.value;
             declared.count++;
-            words.advance();
+            words.toNext();
             expect(Word.COLON);
             declared.argument[effect] = writtenType(0);
             expect(Word.ARROW);
@@ -640,7 +682,7 @@ public final class FiberWorks {
             if (first != Word.OPEN && first != Word.INT && first != Word.BOOL && first != Word.UNIT) {
                 refuseWord();
             }
-            words.advance();
+            words.toNext();
             if (first != Word.OPEN) {
                 return plainType(first);
             }
@@ -663,15 +705,17 @@ public final class FiberWorks {
             if (words.kind != Word.OPEN_ROW) {
                 return 0;
             }
-            words.advance();
+            words.toNext();
             if (words.kind == Word.CLOSE_ROW) {
-                words.advance();
+                words.toNext();
                 return 0;
             }
             int effects = 1 << effect();
+            words.toNext();
             for (int i = 0; i < TEXT_BYTES && words.kind == Word.COMMA; i++) {
-                words.advance();
+                words.toNext();
                 effects |= 1 << effect();
+                words.toNext();
             }
             expect(Word.CLOSE_ROW);
             return effects;
@@ -787,9 +831,10 @@ public final class FiberWorks {
         }
 
         private int clause(int depth, int last) {
-            words.advance();
+            words.toNext();
             int place = words.place;
             int effect = effect();
+            words.toNext();
             int argument = name();
             int continuation = name();
             expect(Word.ARROW);
@@ -813,7 +858,7 @@ public final class FiberWorks {
                 waitingOp[waiting] = op;
                 waitingFrom[waiting] = left;
                 waiting++;
-                words.advance();
+                words.toNext();
                 left = words.place;
                 call(depth);
             }
@@ -869,6 +914,7 @@ public final class FiberWorks {
             int first = words.place;
             if (words.kind == Word.EFFECT) {
                 int effect = effect();
+                words.toNext();
                 expect(Word.PERFORM);
                 countNode();
                 atom(depth);
@@ -900,7 +946,7 @@ public final class FiberWorks {
         private void atom(int depth) {
             switch (words.kind) {
                 case NUMBER:
-                    value(words.number, Types.INT, words.place);
+                    value(words.value, Types.INT, words.place);
                     break;
                 case TRUE:
                     value(1, Types.BOOL, words.place);
@@ -909,13 +955,13 @@ public final class FiberWorks {
                     value(0, Types.BOOL, words.place);
                     break;
                 case NAME:
-                    code.add(Op.NAME, words.place, 0, words.place);
-                    words.advance();
+                    code.add(Op.NAME, words.value, words.place, words.place);
+                    words.toNext();
                     countNode();
                     break;
                 case OPEN:
                     int first = words.place;
-                    words.advance();
+                    words.toNext();
                     if (words.kind == Word.CLOSE) {
                         value(0, Types.UNIT, first);
                         break;
@@ -932,7 +978,7 @@ public final class FiberWorks {
 
         private void value(int value, int type, int first) {
             code.add(Op.VALUE, value, type, first);
-            words.advance();
+            words.toNext();
             countNode();
         }
 
@@ -946,43 +992,34 @@ public final class FiberWorks {
         /** Goes behind the keyword of an EXPR, which is a node: where it stands. */
         private int keyword() {
             int first = words.place;
-            words.advance();
+            words.toNext();
             countNode();
             return first;
         }
 
         private int name() {
-            int place = words.place;
+            int name = words.value;
             expect(Word.NAME);
-            return place;
+            return name;
         }
 
+        /** The effect that is looked at; the caller goes behind it. */
         private int effect() {
             if (words.kind != Word.EFFECT) {
                 refuseWord();
             }
-            int effect = effectAt(words.place);
+            int effect = declared.find(words.value);
             if (effect == NONE) {
                 faults.refuse(Faults.UNDECLARED, words.place);
             }
-            words.advance();
             return effect;
-        }
-
-        private int effectAt(int place) {
-            for (int i = 0; i < declared.count; i++) {
-                if (words.isSame(declared.name[i], place)) {
-                    return i;
-                }
-            }
-            return NONE;
         }
 
         private void expect(Word kind) {
             if (words.kind != kind) {
                 refuseWord();
             }
-            words.advance();
+            words.toNext();
         }
 
         private void refuseWord() {
@@ -1000,7 +1037,6 @@ public final class FiberWorks {
         private static final int MOST_NAMES = 128;
         private static final int MOST_REGIONS = 64;
 
-        private final Words words;
         private final Faults faults;
         private final Types types;
         private final Declarations declared;
@@ -1019,8 +1055,7 @@ public final class FiberWorks {
         private final int[] regionClauses;
         private int region;
 
-        Checker(Words words, Faults faults, Types types, Declarations declared, Code code) {
-            this.words = words;
+        Checker(Faults faults, Types types, Declarations declared, Code code) {
             this.faults = faults;
             this.types = types;
             this.declared = declared;
@@ -1044,14 +1079,18 @@ public final class FiberWorks {
             regionFloor[0] = 0;
             regionMost[0] = 0;
             for (int at = 0; at < code.count; at++) {
-                check(at);
+                if (code.op[at] < Op.FN) {
+                    checkPart(at);
+                } else {
+                    checkRegion(at);
+                }
             }
             code.type = heldType[0];
             code.effects = heldEffects[0];
             code.room = regionMost[0];
         }
 
-        private void check(int at) {
+        private void checkPart(int at) {
             switch (code.op[at]) {
                 case Op.VALUE:
                     hold(code.b[at], 0, at);
@@ -1094,7 +1133,6 @@ public final class FiberWorks {
                     checkPerform(at);
                     break;
                 default:
-                    checkRegion(at);
                     break;
             }
         }
@@ -1145,13 +1183,12 @@ public final class FiberWorks {
         }
 
         private void checkName(int at) {
-            int place = code.a[at];
             int which = names - 1;
-            while (which >= 0 && !words.isSame(name[which], place)) {
+            while (which >= 0 && name[which] != code.a[at]) {
                 which--;
             }
             if (which < 0) {
-                faults.refuse(Faults.UNKNOWN_NAME, place);
+                faults.refuse(Faults.UNKNOWN_NAME, code.b[at]);
             }
             hold(nameType[which], 0, at);
             boolean local = which >= regionFloor[region];
@@ -1245,8 +1282,8 @@ public final class FiberWorks {
             region--;
         }
 
-        private void bind(int place, int type) {
-            name[names] = place;
+        private void bind(int newName, int type) {
+            name[names] = newName;
             nameType[names] = type;
             names++;
             regionMost[region] = Math.max(regionMost[region], names);
@@ -1368,7 +1405,11 @@ public final class FiberWorks {
                 if (fuel - before == most && takesFuel()) {
                     break;
                 }
-                step();
+                if (code.op[at] < Op.CALLEE) {
+                    step();
+                } else {
+                    stepRegion();
+                }
             }
             return fuel - before;
         }
@@ -1410,7 +1451,7 @@ public final class FiberWorks {
                     at++;
                     break;
                 default:
-                    stepRegion();
+                    at++;
                     break;
             }
         }
