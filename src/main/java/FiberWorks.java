@@ -242,18 +242,14 @@ public final class FiberWorks {
         }
 
         void toFirst() {
-            current = 0;
-            look();
+            current = -1;
+            toNext();
         }
 
         void toNext() {
             if (current < count - 1) {
                 current++;
             }
-            look();
-        }
-
-        private void look() {
             kind = kinds[current];
             place = places[current];
             value = values[current];
@@ -706,18 +702,20 @@ public final class FiberWorks {
                 return 0;
             }
             words.toNext();
-            if (words.kind == Word.CLOSE_ROW) {
-                words.toNext();
-                return 0;
-            }
-            int effects = 1 << effect();
-            words.toNext();
-            for (int i = 0; i < TEXT_BYTES && words.kind == Word.COMMA; i++) {
-                words.toNext();
+            int effects = 0;
+            boolean more = words.kind != Word.CLOSE_ROW;
+            for (int i = 0; i < TEXT_BYTES && more; i++) {
                 effects |= 1 << effect();
                 words.toNext();
+                more = words.kind == Word.COMMA;
+                if (more) {
+                    words.toNext();
+                }
             }
-            expect(Word.CLOSE_ROW);
+            if (words.kind != Word.CLOSE_ROW) {
+                refuseWord();
+            }
+            words.toNext();
             return effects;
         }
 
@@ -1006,7 +1004,7 @@ public final class FiberWorks {
         /** The effect that is looked at; the caller goes behind it. */
         private int effect() {
             if (words.kind != Word.EFFECT) {
-                refuseWord();
+                faults.refuse(Faults.CANNOT_STAND, words.place);
             }
             int effect = declared.find(words.value);
             if (effect == NONE) {

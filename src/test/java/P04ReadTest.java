@@ -5,6 +5,7 @@ public final class P04ReadTest {
         words();
         grammar();
         limits();
+        readsAnewBehindFaults();
         textIsEmptyThen();
         nothingRunsThen();
         Works.finish();
@@ -64,6 +65,45 @@ public final class P04ReadTest {
         Works.reads("if true then 1 else 1" + Works.times(298, "+1"), 600);
         String deepType = Works.times(49, "(") + "int" + Works.times(49, "->int)");
         Works.reads("fn (x : " + deepType + ") -> 1", 2);
+        Works.reads("fn(x:" + deepType + ")->(fn(y:" + deepType + ")->1)x", 5);
+        manyTypes();
+    }
+
+    /** Each function's type holds those of all that were told ahead of it. */
+    private static void manyTypes() {
+        StringBuilder text = new StringBuilder();
+        for (int i = 0; i < 9; i++) {
+            text.append("let f=").append(Works.times(9, "fn(x:int)->")).append(i == 0 ? "1" : "f").append(" in ");
+        }
+        Works works = Works.of(text + "f");
+        Works.due("fault(0) of many types", works.x.fault(0), 0);
+        Works.due("type(160) of many types", works.x.type(160), 3);
+        Works.due("type(161) of many types", works.x.type(161), 0);
+        Works.due("type(162) of many types", works.x.type(162), 0);
+        Works.due("type(163) of many types", works.x.type(163), -1);
+    }
+
+    /** What was open when a text was refused is not there any more for the next one. */
+    private static void readsAnewBehindFaults() {
+        String[] refused = {"1 < 2 + 3 * (", "let x = 1 in fn (y : int) -> true + x + y",
+            "effect E : int -> int; handle let x = 1 in E ! x with return y -> y | E a k -> a + true end",
+            "rec x (y : int) : int = if y then 1 else 2 in 3", "effect E : int -> int; E !", "1 1"};
+        for (String text : refused) {
+            Works works = new Works();
+            works.put(text);
+            Works.due("read() of " + text, works.read(), Works.THROWS_ARGUMENT);
+            works.put("x");
+            Works.due("read() of a name", works.read(), Works.THROWS_ARGUMENT);
+            Works.due("fault(0) of a name", works.x.fault(0), 5);
+            works.put("E ! 1");
+            Works.due("read() of an effect", works.read(), Works.THROWS_ARGUMENT);
+            Works.due("fault(0) of an effect", works.x.fault(0), 3);
+            works.put("(fn (x : int) -> let y = 2 in x * y + 1) 3");
+            Works.due("read() of a program", works.read(), 10);
+            works.start();
+            works.run(1);
+            Works.due("its value", works.x.state(1), 7);
+        }
     }
 
     private static void textIsEmptyThen() {

@@ -94,11 +94,30 @@ public final class P05FaultTest {
         Works.refusesAt(4, Works.times(50, "(") + " ^+");
         Works.refusesAt(2, Works.times(50, "(") + "^@");
         Works.refusesAt(4, Works.times(49, "let a = 1 in ") + "let b = ^2 in b");
+        nestings();
         String deepType = "fn (x : " + Works.times(50, "(");
         Works.refusesAt(4, deepType + "^int");
         Works.refusesAt(4, deepType + "^");
         Works.refusesAt(4, deepType + "^1");
         nodeLimits();
+    }
+
+    /** Each form holds 48 others, so that what it holds itself is the 50th and may hold nothing. */
+    private static void nestings() {
+        String open = Works.times(48, "(");
+        String close = Works.times(48, ")");
+        String[] forms = {"let x = # in 1", "let x = 1 in #", "rec f (x : int) : int = # in 1",
+            "rec f (x : int) : int = 1 in #", "if # = 1 then 1 else 1", "if true then # else 1",
+            "if true then 1 else #", "fn (x : int) -> #", "handle # with return x -> 1 end",
+            "handle 1 with return x -> # end", "handle 1 with return x -> x | E a k -> # end",
+            "1 + 1 * (#)", "E ! (#)", "E ! 1 < (#)"};
+        for (String form : forms) {
+            int hole = form.indexOf('#');
+            String ahead = E + open + form.substring(0, hole);
+            Works works = Works.of(ahead + "1" + form.substring(hole + 1) + close);
+            Works.due("fault(0) of " + form, works.x.fault(0), 0);
+            Works.refusesAt(4, ahead + "(^1)" + form.substring(hole + 1) + close);
+        }
     }
 
     private static void nodeLimits() {
