@@ -6,6 +6,7 @@ public final class P04ReadTest {
         grammar();
         limits();
         readsAnewBehindFaults();
+        namesAreGone();
         textIsEmptyThen();
         nothingRunsThen();
         Works.finish();
@@ -104,6 +105,15 @@ public final class P04ReadTest {
             works.run(1);
             Works.due("its value", works.x.state(1), 7);
         }
+    }
+
+    private static void namesAreGone() {
+        Works works = Works.of("let x = 1 in true + x");
+        Works.due("fault(0)", works.x.fault(0), 6);
+        works.put("    x");
+        Works.due("read() of x where x stood", works.read(), Works.THROWS_ARGUMENT);
+        Works.due("fault(0) of x where x stood", works.x.fault(0), 5);
+        Works.due("fault(1) of x where x stood", works.x.fault(1), 4);
     }
 
     private static void textIsEmptyThen() {

@@ -12,6 +12,7 @@ public final class P05FaultTest {
         firstInReading();
         names();
         wrongTypes();
+        deepFits();
         beyondRow();
         twoClauses();
         orderOfChecks();
@@ -179,6 +180,20 @@ public final class P05FaultTest {
         Works.reads(E + "(fn (f : ((int -> int) -> int)) -> 1) (fn (g : (int -> int {E})) -> 1)", 5);
         Works.reads(EF + "fn (f : (int -> int {E, F})) -> fn (g : (int -> int {F, E, F})) -> "
                 + "if true then f else g", 6);
+    }
+
+    /** What stands in an even number of arguments fits as it does by itself, else the other way. */
+    private static void deepFits() {
+        for (int depth = 1; depth < 49; depth++) {
+            String open = Works.times(depth, "(");
+            String close = Works.times(depth, "->int)");
+            String less = open + "(int->int)" + close;
+            String more = open + "(int->int{E})" + close;
+            String given = depth % 2 == 0 ? less : more;
+            String asked = depth % 2 == 0 ? more : less;
+            Works.reads(E + "fn(x:" + given + ")->(fn(y:" + asked + ")->1)x", 5);
+            Works.refusesAt(6, E + "fn(x:" + asked + ")->(fn(y:" + given + ")->1)^x");
+        }
     }
 
     private static void beyondRow() {

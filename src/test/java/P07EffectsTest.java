@@ -12,6 +12,7 @@ public final class P07EffectsTest {
         has(EFG + "fn (x : int) -> G ! x", 0, 4, -1, -1);
         has(EFG + "let u = E ! 2 in fn (x : int) -> fn (y : int) -> G ! x", 1, 0, -1, 4, -1, -1);
         has(EFG + "(fn (x : int) -> G ! x) (E ! 1)", 5, -1);
+        has(EFG + "G ! (if F ! () then 1 else 2)", 6, -1);
         has(EFG + "(let u = F ! () in fn (x : int) -> G ! x) (E ! 1)", 7, -1);
         has(EFG + "fn (f : (int -> int {G, E})) -> f 1", 0, 5, 5, -1, -1, -1);
         has(EFG + "rec f (x : int) : int {F, F} = 1 in f", 0, 2, -1, -1);

@@ -10,6 +10,7 @@ public final class P09RunTest {
         order();
         goingOn();
         handlers();
+        clauses();
         names();
         Works.finish();
     }
@@ -109,6 +110,16 @@ public final class P09RunTest {
             + "return x -> x + 1 | F u k -> k 1 * 100 end with return x -> x * 2 | E u k -> k 20 + 3 end", 4403);
         Works.gives("effect E : unit -> int; effect F : unit -> int; handle handle F ! () + E ! () with {F} "
             + "return x -> x + 1 | E u k -> k 1 * 100 end with return x -> x * 2 | F u k -> k 20 + 3 end", 4403);
+    }
+
+    /** One clause of three is the one for the effect, wherever it stands. */
+    private static void clauses() {
+        String three = "effect A : int -> int; effect B : int -> int; effect C : int -> int; handle ";
+        String with = " with return x -> x | C v k -> k (v * 3) | A v k -> k (v + 1) | B v k -> k (0 - v) end";
+        Works.gives(three + "A ! 10" + with, 11);
+        Works.gives(three + "B ! 10" + with, -10);
+        Works.gives(three + "C ! 10" + with, 30);
+        Works.gives(three + "A ! (B ! (C ! 10))" + with, -29);
     }
 
     private static void names() {
