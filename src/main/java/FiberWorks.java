@@ -556,7 +556,7 @@ public final class FiberWorks {
         int[] b;
         int[] c;
         int[] d;
-        /** Where the EXPR begins whose end an instruction is. */
+        /** Where the EXPR begins whose end an instruction is; of a CLAUSE where its effect stands. */
         int[] from;
         int count;
         int nodes;
