@@ -15,6 +15,8 @@ public final class RoomTest {
         fullRecords();
         fullContinuations();
         manyReads();
+        manyTypes();
+        manyStarts();
         Works.finish();
     }
 
@@ -53,6 +55,36 @@ public final class RoomTest {
             text.append("+1");
         }
         isSmall("many reads", bytesOf(text.toString(), 10, 1));
+    }
+
+    /** Each text has other types than those ahead of it. */
+    private static void manyTypes() {
+        FiberWorks x = new FiberWorks();
+        int[] five = new int[5];
+        long before = MADE.getCurrentThreadAllocatedBytes();
+        long made = 0;
+        for (int i = 1; i < 40; i++) {
+            putInto(x, Works.times(i, "fn(x:int)->") + "true", five);
+            before = MADE.getCurrentThreadAllocatedBytes();
+            x.read();
+            made += MADE.getCurrentThreadAllocatedBytes() - before;
+        }
+        Works.due("many types stay below an object's room", made < 20000 ? 0 : made, 0);
+    }
+
+    /** What a run has made is given back when the program begins anew. */
+    private static void manyStarts() {
+        String text = "rec f(x:int):int=let g=fn(y:int)->y in 1+f(g x) in f 1";
+        FiberWorks x = new FiberWorks();
+        putInto(x, text, new int[5]);
+        x.read();
+        long before = MADE.getCurrentThreadAllocatedBytes();
+        for (int i = 0; i < 200; i++) {
+            x.start();
+            x.run(2000);
+        }
+        long made = MADE.getCurrentThreadAllocatedBytes() - before;
+        Works.due("many starts stay below an object's room", made < 100000 ? 0 : made, 0);
     }
 
     private static void isSmall(String what, long bytes) {
