@@ -6,6 +6,7 @@ public final class P04LimitsTest {
         declarations();
         exprsInParentheses();
         exprsInEachForm();
+        deepestOfEachForm();
         fiftyFirstExpr();
         typesInOneAnother();
         typesInEachPlace();
@@ -74,6 +75,26 @@ public final class P04LimitsTest {
         }
         Works.refusesAt(6, open + "^1 (1)" + close);
         Works.refusesAt(4, open + "1 ((^1))" + close);
+    }
+
+    /** 50 EXPRs in one another, 49 of them of one form, are read and worked. */
+    private static void deepestOfEachForm() {
+        nests("let x=", "7", " in x", 7, 0, 0);
+        nests("let x=1 in ", "x", "", 1, 0, 0);
+        nests("rec f(x:int):int=", "x", " in f 3", 3, 49, 49);
+        nests("rec f(x:int):int=x in ", "f 3", "", 3, 1, 49);
+        nests("if true then ", "4", " else 1", 4, 0, 0);
+        nests("if false then 1 else ", "5", "", 5, 0, 0);
+        nests("if ", "true", " then true else false", 1, 0, 0);
+        nests("fn(x:int)->", "x", "", 0, 0, 1);
+        nests("handle ", "1", " with return x->x end", 1, 0, 49);
+        nests("handle 1 with return x->", "x", " end", 1, 0, 49);
+        nests("2-3*(", "1", ")", 132493151, 0, 0);
+    }
+
+    private static void nests(String ahead, String inner, String behind, int value, int fuel, int things) {
+        String text = Works.times(49, ahead) + inner + Works.times(49, behind);
+        Works.ends(text, 2, value, fuel, things, 0);
     }
 
     /** At the place of a 51st one nothing but a word that is none comes ahead of it. */

@@ -16,6 +16,7 @@ public final class P09WorkTest {
         clausesAreWithoutTheHandler();
         theHandlerComesBack();
         clauses();
+        eightClauses();
         Works.finish();
     }
 
@@ -154,5 +155,18 @@ public final class P09WorkTest {
         Works.gives(three + "B ! 10" + with, -10);
         Works.gives(three + "C ! 10" + with, 30);
         Works.gives(three + "A ! (B ! (C ! 10))" + with, -29);
+    }
+
+    private static void eightClauses() {
+        StringBuilder declared = new StringBuilder();
+        StringBuilder clauses = new StringBuilder(" with return x -> x");
+        for (int i = 0; i < 8; i++) {
+            char effect = (char) ('A' + i);
+            declared.append("effect ").append(effect).append(":int->int;");
+            clauses.append(" | ").append(effect).append(" a k -> k (a + ").append(i).append(")");
+        }
+        for (int i = 0; i < 8; i++) {
+            Works.gives(declared + "handle " + (char) ('A' + i) + " ! 10" + clauses + " end", 10 + i);
+        }
     }
 }
