@@ -13,8 +13,18 @@ public final class P01NewObjectTest {
         Works.due("run(1)", works.run(1), Works.THROWS_STATE);
         works.isAt("after start() was refused", 0, 0, 0, 0, 0, -1);
         Works.due("end(0)", works.x.end(0), 0);
+        noTextInHand();
         objectsAreApart();
         Works.finish();
+    }
+
+    private static void noTextInHand() {
+        Works works = new Works();
+        Works.due("read()", works.read(), Works.THROWS_ARGUMENT);
+        Works.due("fault(0) of nothing", works.x.fault(0), 1);
+        Works.due("fault(1) of nothing", works.x.fault(1), 0);
+        works.isAt("nothing was read", 0, 0, 0, 0, 0, -1);
+        Works.due("start() then", works.start(), Works.THROWS_STATE);
     }
 
     private static void objectsAreApart() {
