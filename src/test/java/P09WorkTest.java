@@ -17,6 +17,7 @@ public final class P09WorkTest {
         theHandlerComesBack();
         clauses();
         eightClauses();
+        allClausesButOne();
         Works.finish();
     }
 
@@ -167,6 +168,21 @@ public final class P09WorkTest {
         }
         for (int i = 0; i < 8; i++) {
             Works.gives(declared + "handle " + (char) ('A' + i) + " ! 10" + clauses + " end", 10 + i);
+        }
+    }
+
+    /** The inner handler has clauses for all effects but the one that is performed. */
+    private static void allClausesButOne() {
+        for (int i = 0; i < 8; i++) {
+            StringBuilder declared = new StringBuilder();
+            StringBuilder others = new StringBuilder();
+            for (int j = 0; j < 8; j++) {
+                declared.append("effect ").append((char) ('A' + j)).append(":int->int;");
+                others.append(i == j ? "" : " | " + (char) ('A' + j) + " a k -> k 0");
+            }
+            char effect = (char) ('A' + i);
+            Works.gives(declared + "let z = 5 in handle handle " + effect + " ! 10 with {" + effect + "} return x -> x"
+                + others + " end with return x -> x | " + effect + " a k -> k (a + z) end", 15);
         }
     }
 }
