@@ -83,11 +83,15 @@ public final class P05CheckingFaultTest {
         Works.refusesAt(6, "1 - (2 + ^false)");
     }
 
+    /** Each form is told at its own beginning, here as a condition and as a branch. */
     private static void conditions() {
-        String[] others = {"1", "()", "1 + 1", "(1)", "(fn (x : int) -> true)", "fn (x : int) -> true",
-            "if true then 1 else 2"};
+        String[] others = {"1", "()", "1 + 1", "1 + 2 * 3 - 4", "(1)", "((1))", "(fn (x : int) -> true)",
+            "fn (x : int) -> true", "if true then 1 else 2", "let x = 1 in x", "let x = 2 in x * 1",
+            "rec f (x : int) : int = x in 1", "rec f (x : int) : int = x in f", "handle 1 with return x -> x end",
+            "handle 1 with return x -> x | E a k -> a end", "E ! 1", "E ! (1) + 1", "(fn (x : int) -> x) 1"};
         for (String other : others) {
-            Works.refusesAt(6, "if ^" + other + " then 2 else 3");
+            Works.refusesAt(6, E + "if ^" + other + " then 2 else 3");
+            Works.refusesAt(6, E + "if true then true else ^" + other);
         }
         Works.reads("if 1 < 2 then 2 else 3", 6);
     }
